@@ -442,9 +442,9 @@ public final class CreditLinks {
     }
 
     /**
-     * Frames under way in one direction, as a ring that no call has to make anew. A call adds at most one frame to
-     * the receiver's row for itself or for an earlier tell, and the sender's row never holds more than the frames of
-     * all deliveries, so it cannot be full within the 512 calls of an object.
+     * Frames under way in one direction, as a ring, so that no call has to make objects. Within the 512 calls of an
+     * object it cannot be full: each grant, decide or tell puts one frame at most into the receiver's row, and the
+     * sender's row holds at most the 240 frames of all deliveries. Past that a frame without a place is dropped.
      */
     private static final class Row {
         static final int ROOM = 512;
