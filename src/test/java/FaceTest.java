@@ -19,6 +19,13 @@ public final class FaceTest {
         expect.finish();
     }
 
+    /**
+     * Terms: "The constants: `NONE = -1`: There is none."
+     * Terms: "`LOOSE = 0, ONCE_OR_MORE = 1, JUST_ONCE = 2`: Modes of links."
+     * Terms: "`ACCEPTED = 0, REJECTED = 1, RELEASED = 2`: Outcomes."
+     * Terms: "`OPEN = 0, SETTLED = 1`: What a delivery is for the sender."
+     * Terms: "`UNKNOWN = 0, PARTLY = 1, WHOLE = 2, DECIDED = 3, FORGOTTEN = 4`: What a delivery is for the receiver."
+     */
     private static void constants(Expect expect) throws Exception {
         String[] due = {"NONE -1", "LOOSE 0", "ONCE_OR_MORE 1", "JUST_ONCE 2", "ACCEPTED 0", "REJECTED 1",
             "RELEASED 2", "OPEN 0", "SETTLED 1", "UNKNOWN 0", "PARTLY 1", "WHOLE 2", "DECIDED 3", "FORGOTTEN 4"};
