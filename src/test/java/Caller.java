@@ -72,8 +72,15 @@ final class Caller {
         try {
             return "" + number(x, name, a, b);
         } catch (RuntimeException e) {
-            return e.getClass().getSimpleName();
+            return thrown(e);
         }
+    }
+
+    /** The simple name of an exception; what the library threw, and not the class itself, is told as that. */
+    static String thrown(RuntimeException e) {
+        StackTraceElement[] places = e.getStackTrace();
+        boolean byTheClass = places.length > 0 && places[0].getClassName().startsWith("CreditLinks");
+        return e.getClass().getSimpleName() + (byTheClass ? "" : " of the library");
     }
 
     private static int number(CreditLinks x, String name, int a, int b) {

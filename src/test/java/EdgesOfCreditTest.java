@@ -22,6 +22,7 @@ public final class EdgesOfCreditTest {
         receiverCountsNoneSentAnew();
         receiverCountsNoForget();
         receiverCountsLinksApart();
+        limitStaysAsItWasTold();
         limitHoldsWhenItComes();
         smallerLimitHoldsToo();
         countsMeetWhenJoined();
@@ -255,6 +256,14 @@ public final class EdgesOfCreditTest {
         script("each link by itself").open(0, "LOOSE", 5).open(3, "LOOSE", 5)
             .whole(3, 1).whole(0, 2).whole(3, 3)
             .then("grant 0 0 = 1", "grant 1 0 = 0", "grant 2 0 = 0", "grant 3 0 = 2");
+    }
+
+    /** Terms: "When that comes to the sender, it is its limit." */
+    private static void limitStaysAsItWasTold() {
+        script("a limit under way, and deliveries that come").open(0, "LOOSE", 9)
+            .then("send 0 1 = 0", "grant 0 4 = 4", "send 0 2 = 1", "toReceiver 1 = 1", "grant 0 4 = 5")
+            .then("toReceiver 2 = 1", "grant 0 4 = 6", "credit 0 = 7", "toSender 1 = 0", "credit 0 = 2")
+            .then("toSender 1 = 0", "credit 0 = 3", "toSender 1 = 0", "credit 0 = 4");
     }
 
     /** Terms: "When that comes to the sender, it is its limit." */

@@ -35,27 +35,27 @@ final class Expect {
     }
 
     void noSuch(String what, CreditLinks x, Call call) {
-        throwing(what, x, call, IndexOutOfBoundsException.class);
+        throwing(what, x, call, "IndexOutOfBoundsException");
     }
 
     void wrongArgument(String what, CreditLinks x, Call call) {
-        throwing(what, x, call, IllegalArgumentException.class);
+        throwing(what, x, call, "IllegalArgumentException");
     }
 
     void wrongState(String what, CreditLinks x, Call call) {
-        throwing(what, x, call, IllegalStateException.class);
+        throwing(what, x, call, "IllegalStateException");
     }
 
     /** Also looks whether the call that throws leaves all answers as they were. */
-    private void throwing(String what, CreditLinks x, Call call, Class<?> due) {
+    private void throwing(String what, CreditLinks x, Call call, String due) {
         String before = View.of(x);
-        Class<?> got = null;
+        String got = "nothing";
         try {
             call.make();
         } catch (RuntimeException e) {
-            got = e.getClass();
+            got = Caller.thrown(e);
         }
-        same(what + " throws", String.valueOf(got), String.valueOf(due));
+        same(what + " throws", got, due);
         same(what + " throws, and the view of the object then", View.of(x), before);
     }
 

@@ -42,7 +42,8 @@ public final class JoiningTest {
         x.toReceiver(1);
         String credits = "credit 15 15 13 0";
         EXPECT.same("lost", x.breakOff(), 2);
-        EXPECT.same("while down", View.of(x), "down under way 0/0 would resend 2 " + credits + " [0 -1 1 0] [0 -1 0 0]");
+        EXPECT.same("while down", View.of(x),
+            "down under way 0/0 would resend 2 " + credits + " [0 -1 1 0] [0 -1 0 0]");
         EXPECT.same("modes can be set while down", x.setMode(2, CreditLinks.LOOSE), CreditLinks.JUST_ONCE);
         EXPECT.same("joined", x.join(), 2);
         EXPECT.same("then", View.of(x), "up under way 3/0 would resend 2 credit 0 0 0 0 [0 -1 0 0] [0 -1 0 0]");

@@ -1,4 +1,7 @@
 import java.io.IOException;
+import java.lang.reflect.Field;
+import java.lang.reflect.Method;
+import java.lang.reflect.Modifier;
 import java.nio.charset.StandardCharsets;
 import java.nio.file.Files;
 import java.nio.file.Path;
@@ -6,7 +9,7 @@ import java.util.List;
 import java.util.regex.Matcher;
 import java.util.regex.Pattern;
 
-/** Those rules of LANGUAGE.md that can be seen from the text of the class; .ci/run starts it in the project's folder. */
+/** Rules of LANGUAGE.md that can be seen from the text of the class; .ci/run starts it in the project's folder. */
 public final class LanguageTest {
     private static final Expect EXPECT = new Expect("LanguageTest");
     private static final List<String> THROWN =
@@ -30,8 +33,25 @@ public final class LanguageTest {
         EXPECT.same("throws in the plain form", count(code, "\\bthrow\\b"),
             count(code, "throw\\s+new\\s+\\w+\\(\"[^\"]+\"\\)"));
         EXPECT.same("static fields that are final", count(code, "static (?!final)[\\w\\[\\]]+ \\w+( =|;|,)"), 0);
-        EXPECT.yes("at most twelve classes", count(code, "\\bclass\\s+\\w+") <= 12);
+        EXPECT.yes("at most twelve classes (11)", count(code, "\\bclass\\s+\\w+") <= 12);
+        sizes(CreditLinks.class);
+        for (Class<?> inside : CreditLinks.class.getDeclaredClasses()) {
+            sizes(inside);
+        }
         EXPECT.finish();
+    }
+
+    private static void sizes(Class<?> one) {
+        int fields = 0;
+        for (Field field : one.getDeclaredFields()) {
+            boolean constant = Modifier.isStatic(field.getModifiers());
+            EXPECT.yes(field + " is static and not final (5)", !constant || Modifier.isFinal(field.getModifiers()));
+            fields += constant ? 0 : 1;
+        }
+        EXPECT.yes(one.getName() + " has at most twenty fields (11)", fields <= 20);
+        for (Method method : one.getDeclaredMethods()) {
+            EXPECT.yes(method + " takes at most seven parameters (11)", method.getParameterCount() <= 7);
+        }
     }
 
     private static void hasNone(String code, String what, String pattern) {

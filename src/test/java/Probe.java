@@ -17,15 +17,21 @@ final class Probe {
     static String of(CreditLinks x, int way) {
         Probe probe = new Probe(x);
         probe.look();
+        // The counts first: what follows may be refused, and would change both objects alike if it did more than that.
+        if (x.isUp()) {
+            probe.links();
+        }
         if (way == 0) {
             probe.call("end", 1, 0);
         } else if (way == 1) {
             probe.call("end", 0, 0);
-        } else {
+        } else if (x.isUp()) {
             probe.call("breakOff", 0, 0);
         }
+        if (!x.isUp()) {
+            probe.call("join", 0, 0);
+        }
         probe.transaction();
-        probe.call("join", 0, 0);
         probe.links();
         probe.frames();
         probe.decisions();
