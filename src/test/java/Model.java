@@ -46,6 +46,25 @@ final class Model {
         return forbidden(name, a) ? "IllegalStateException" : "" + answer(name, a, b);
     }
 
+    /** The same text as View.of makes. */
+    String view() {
+        StringBuilder text = new StringBuilder();
+        text.append(call("isUp", 0, 0).equals("1") ? "up" : "down");
+        text.append(" under way ").append(call("underWay", 0, 0)).append('/');
+        text.append(call("backUnderWay", 0, 0));
+        text.append(" would resend ").append(call("wouldResend", 0, 0)).append(" credit");
+        for (int link = 0; link < 4; link++) {
+            text.append(' ').append(call("credit", link, 0));
+        }
+        int deliveries = Integer.parseInt(call("deliveries", 0, 0));
+        for (int i = 0; i < deliveries; i++) {
+            text.append(" [").append(call("forSender", i, 0)).append(' ').append(call("heard", i, 0));
+            text.append(' ').append(call("forReceiver", i, 0)).append(' ').append(call("effects", i, 0));
+            text.append(']');
+        }
+        return text.toString();
+    }
+
     private boolean forbidden(String name, int a) {
         return switch (name) {
             case "grant", "breakOff" -> !up;

@@ -26,31 +26,12 @@ public final class ModelTest {
             String what = "run " + run + ", call " + i + ", " + caller.text();
             EXPECT.same(what, got, due);
             String view = View.of(x);
-            EXPECT.same(what + ", and the view then", view, view(model));
+            EXPECT.same(what + ", and the view then", view, model.view());
             see(caller.name, due);
             if (!got.equals(due)) {
                 return;
             }
         }
-    }
-
-    /** The same text as View.of makes. */
-    private static String view(Model model) {
-        StringBuilder text = new StringBuilder();
-        text.append(model.call("isUp", 0, 0).equals("1") ? "up" : "down");
-        text.append(" under way ").append(model.call("underWay", 0, 0)).append('/');
-        text.append(model.call("backUnderWay", 0, 0));
-        text.append(" would resend ").append(model.call("wouldResend", 0, 0)).append(" credit");
-        for (int link = 0; link < 4; link++) {
-            text.append(' ').append(model.call("credit", link, 0));
-        }
-        int deliveries = Integer.parseInt(model.call("deliveries", 0, 0));
-        for (int i = 0; i < deliveries; i++) {
-            text.append(" [").append(model.call("forSender", i, 0)).append(' ').append(model.call("heard", i, 0));
-            text.append(' ').append(model.call("forReceiver", i, 0)).append(' ').append(model.call("effects", i, 0));
-            text.append(']');
-        }
-        return text.toString();
     }
 
     private static void see(String name, String answer) {
